@@ -237,12 +237,16 @@ public final class LzwForms {
         private int k;
         private int most;
         private int clears;
+        private boolean hasEnd;
+        private boolean inGroups;
+        private boolean highestBitFirst;
+        private int clearCode;
+        private int endCode;
+        private int firstNumber;
+        private int lastNumber;
 
         Rules() {
-            form = 0;
-            k = 8;
-            most = 12;
-            clears = 1;
+            become(0, 8, 12, 1);
         }
 
         static boolean allow(int form, int k, int most, int clears) {
@@ -257,38 +261,17 @@ public final class LzwForms {
             k = newK;
             most = newMost;
             clears = newClears;
+            hasEnd = form != 2;
+            inGroups = form == 2;
+            highestBitFirst = form == 1;
+            clearCode = 1 << k;
+            endCode = hasEnd ? clearCode + 1 : NONE;
+            firstNumber = hasEnd ? clearCode + 2 : clearCode + 1;
+            lastNumber = oneEarly(1 << most);
         }
 
         boolean isSymbol(int number) {
-            return number >= 0 && number < clearCode();
-        }
-
-        boolean inGroups() {
-            return form == 2;
-        }
-
-        boolean hasEnd() {
-            return form != 2;
-        }
-
-        boolean highestBitFirst() {
-            return form == 1;
-        }
-
-        int clearCode() {
-            return 1 << k;
-        }
-
-        int endCode() {
-            return hasEnd() ? clearCode() + 1 : NONE;
-        }
-
-        int firstNumber() {
-            return hasEnd() ? clearCode() + 2 : clearCode() + 1;
-        }
-
-        int lastNumber() {
-            return oneEarly(1 << most);
+            return number >= 0 && number < clearCode;
         }
 
         int countThatWidens(int width) {
@@ -322,7 +305,7 @@ public final class LzwForms {
         }
 
         int bitsThatFill() {
-            if (!rules.inGroups() || codesInGroup == 0 || !groupEnds()) {
+            if (!rules.inGroups || codesInGroup == 0 || !groupEnds()) {
                 return 0;
             }
             return (GROUP - codesInGroup) * groupWidth;
@@ -334,10 +317,10 @@ public final class LzwForms {
             }
             codesInGroup = (codesInGroup + 1) % GROUP;
             groupWidth = width;
-            behindClear = code == rules.clearCode();
+            behindClear = code == rules.clearCode;
             if (behindClear) {
                 beginTable();
-            } else if (code != rules.endCode()) {
+            } else if (code != rules.endCode) {
                 passString();
             }
         }
@@ -347,7 +330,7 @@ public final class LzwForms {
         }
 
         private void beginTable() {
-            count = rules.firstNumber();
+            count = rules.firstNumber;
             width = rules.k + 1;
             noStringYet = true;
         }
@@ -357,7 +340,7 @@ public final class LzwForms {
                 noStringYet = false;
                 return;
             }
-            count = Math.min(count + 1, rules.lastNumber());
+            count = Math.min(count + 1, rules.lastNumber);
             if (count >= rules.countThatWidens(width)) {
                 width = Math.min(width + 1, rules.most);
             }
@@ -402,11 +385,11 @@ public final class LzwForms {
         }
 
         boolean isFull() {
-            return rules.firstNumber() + strings >= rules.lastNumber();
+            return rules.firstNumber + strings >= rules.lastNumber;
         }
 
         void addLonger(int number, int symbol) {
-            int made = rules.firstNumber() + strings;
+            int made = rules.firstNumber + strings;
             if (isFull() || strings >= heads.length || made >= chainOf.length) {
                 return;
             }
@@ -430,7 +413,7 @@ public final class LzwForms {
             int slot = chainOf[number];
             for (int tries = 0; tries < strings && slot >= 0 && slot < tails.length; tries++) {
                 if (tails[slot] == symbol) {
-                    return rules.firstNumber() + slot;
+                    return rules.firstNumber + slot;
                 }
                 slot = nextInChain[slot];
             }
@@ -459,7 +442,7 @@ public final class LzwForms {
         }
 
         private int slotOf(int number) {
-            int first = rules.firstNumber();
+            int first = rules.firstNumber;
             return number >= first && number < first + strings ? number - first : NONE;
         }
     }
@@ -487,7 +470,7 @@ public final class LzwForms {
 
         void pack(Row data) {
             begin();
-            if (rules.hasEnd()) {
+            if (rules.hasEnd) {
                 putClear();
             }
             int next = 0;
@@ -503,8 +486,8 @@ public final class LzwForms {
                     }
                 }
             }
-            if (rules.hasEnd()) {
-                put(rules.endCode());
+            if (rules.hasEnd) {
+                put(rules.endCode);
             }
         }
 
@@ -539,7 +522,7 @@ public final class LzwForms {
         }
 
         private void putClear() {
-            put(rules.clearCode());
+            put(rules.clearCode);
             table.wipe();
             clearCodes++;
             stringsSinceClear = 0;
@@ -591,11 +574,11 @@ public final class LzwForms {
 
         /** Which bit of a CODE (0 the lowest) comes as its i-th. */
         int placeInCode(int i, int width) {
-            return rules.highestBitFirst() ? width - 1 - i : i;
+            return rules.highestBitFirst ? width - 1 - i : i;
         }
 
         private int placeInByte(int position) {
-            return rules.highestBitFirst() ? 7 - (position & 7) : position & 7;
+            return rules.highestBitFirst ? 7 - (position & 7) : position & 7;
         }
     }
 
@@ -629,7 +612,7 @@ public final class LzwForms {
             begin();
             for (int turn = 0; turn <= MOST_BITS; turn++) {
                 int fill = pace.bitsThatFill();
-                if (rules.inGroups() && bitsLeft() < fill + pace.width) {
+                if (rules.inGroups && bitsLeft() < fill + pace.width) {
                     return zerosUpTo(tape.bits());
                 }
                 if (zerosUpTo(bitsRead + fill) != NO_FAULT) {
@@ -643,7 +626,7 @@ public final class LzwForms {
                 if (met != NO_FAULT) {
                     return met;
                 }
-                if (code == rules.endCode()) {
+                if (code == rules.endCode) {
                     return closeLastByte();
                 }
             }
@@ -696,11 +679,11 @@ public final class LzwForms {
         }
 
         private int take(int code) {
-            boolean isClear = code == rules.clearCode();
-            if (codesRead == 1 && rules.hasEnd() && !isClear) {
+            boolean isClear = code == rules.clearCode;
+            if (codesRead == 1 && rules.hasEnd && !isClear) {
                 return NO_FIRST_CLEAR;
             }
-            int met = isClear || code == rules.endCode() ? NO_FAULT : takeString(code);
+            int met = isClear || code == rules.endCode ? NO_FAULT : takeString(code);
             if (met == NO_FAULT) {
                 pace.pass(code);
             }
@@ -709,7 +692,7 @@ public final class LzwForms {
 
         private int takeString(int number) {
             if (pace.noStringYet) {
-                if (number >= rules.firstNumber()) {
+                if (number >= rules.firstNumber) {
                     return NO_SYMBOL_FIRST;
                 }
             } else {
@@ -722,14 +705,14 @@ public final class LzwForms {
         }
 
         private boolean isAboveCount(int number) {
-            int last = rules.lastNumber();
+            int last = rules.lastNumber;
             return number > pace.count || (pace.count == last && number >= last);
         }
 
         // Its last SYMBOL is not given yet: it comes as the first one of the CODE that makes it.
         private void makeString() {
-            int slot = pace.count - rules.firstNumber();
-            if (pace.count < rules.lastNumber() && slot >= 0 && slot < starts.length) {
+            int slot = pace.count - rules.firstNumber;
+            if (pace.count < rules.lastNumber && slot >= 0 && slot < starts.length) {
                 starts[slot] = startBefore;
                 lengths[slot] = lengthBefore + 1;
             }
@@ -737,7 +720,7 @@ public final class LzwForms {
 
         private int give(int number) {
             int here = symbols.size();
-            int slot = number - rules.firstNumber();
+            int slot = number - rules.firstNumber;
             boolean isOfTable = slot >= 0 && slot < starts.length;
             int length = isOfTable ? lengths[slot] : 1;
             if (here + length > MOST_SYMBOLS) {

@@ -22,13 +22,13 @@ public final class ModelTest {
     }
 
     public static void main(String[] args) {
-        for (int seed = 0; seed < 400; seed++) {
+        for (int seed = 0; seed < 150; seed++) {
             new ModelTest(seed).anyCalls();
         }
-        for (int seed = 1000; seed < 1300; seed++) {
+        for (int seed = 1000; seed < 1100; seed++) {
             new ModelTest(seed).packWriteRead();
         }
-        for (int seed = 2000; seed < 3500; seed++) {
+        for (int seed = 2000; seed < 2500; seed++) {
             new ModelTest(seed).tapeOfAnyCodes();
         }
         Due.end();
