@@ -389,19 +389,18 @@ public final class LzwForms {
         }
 
         void addLonger(int number, int symbol) {
-            int made = rules.firstNumber + strings;
-            if (isFull() || strings >= heads.length || made >= chainOf.length) {
+            int length = lengthOf(number);
+            if (isFull() || strings >= heads.length || length == NONE) {
                 return;
             }
-            if (lengthOf(number) == NONE || number < 0 || number >= chainOf.length) {
+            if (number < 0 || number >= chainOf.length) {
                 return;
             }
             heads[strings] = number;
             tails[strings] = symbol;
-            lengths[strings] = lengthOf(number) + 1;
+            lengths[strings] = length + 1;
             nextInChain[strings] = chainOf[number];
             chainOf[number] = strings;
-            chainOf[made] = NONE;
             strings++;
         }
 

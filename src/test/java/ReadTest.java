@@ -292,6 +292,14 @@ public final class ReadTest {
         reads("two bytes, FORM 2", x, new Bits(2).code(5, 9).zeros(7), 5);
         meets("a 1 is left", x, new Bits(2).code(5, 9).zeros(6).code(1, 1), 6, 16);
         reads("a CODE 0 is read", x, new Bits(2).code(5, 9).zeros(15), 5, 0);
+        Bits exact = new Bits(2);
+        for (int i = 1; i <= 8; i++) {
+            exact.code(i, 9);
+        }
+        reads("the last CODE takes the last bit", x, exact, 1, 2, 3, 4, 5, 6, 7, 8);
+        reads("the fill and a CODE take all", x, new Bits(2).code(256, 9).zeros(63).code(256, 9).zeros(63)
+            .code(1, 9).code(2, 9).code(3, 9).code(4, 9).code(5, 9).code(6, 9).code(7, 9).code(8, 9),
+            1, 2, 3, 4, 5, 6, 7, 8);
         // Behind CLEAR 63 bits fill the GROUP: as long as no CODE fits behind those, it ends.
         reads("CLEAR, and 63 of 72 bits", x, new Bits(2).code(256, 9).zeros(63));
         reads("CLEAR, and a byte", x, new Bits(2).code(256, 9).zeros(15));
