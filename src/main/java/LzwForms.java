@@ -245,6 +245,9 @@ public final class LzwForms {
         private int firstNumber;
         private int lastNumber;
 
+        // 1 in FORM 1, which comes to LAST, and to each next WIDTH, one NUMBER sooner.
+        private int early;
+
         Rules() {
             become(0, 8, 12, 1);
         }
@@ -267,7 +270,8 @@ public final class LzwForms {
             clearCode = 1 << k;
             endCode = hasEnd ? clearCode + 1 : NONE;
             firstNumber = hasEnd ? clearCode + 2 : clearCode + 1;
-            lastNumber = oneEarly(1 << most);
+            early = form == 1 ? 1 : 0;
+            lastNumber = (1 << most) - early;
         }
 
         boolean isSymbol(int number) {
@@ -275,11 +279,7 @@ public final class LzwForms {
         }
 
         int countThatWidens(int width) {
-            return oneEarly(1 << width);
-        }
-
-        private int oneEarly(int power) {
-            return form == 1 ? power - 1 : power;
+            return (1 << width) - early;
         }
     }
 

@@ -25,24 +25,6 @@ public final class PackTest {
         Due.end();
     }
 
-    static LzwForms with(int form, int k, int most, int clears, int... symbols) {
-        LzwForms x = new LzwForms();
-        Due.is("setting", x.setting(form, k, most, clears), 1);
-        for (int v : symbols) {
-            x.symbol(v);
-        }
-        return x;
-    }
-
-    /** 0, 1, 2 .. one behind the other, beginning anew behind the highest SYMBOL. */
-    static int[] counted(int length, int kinds) {
-        int[] row = new int[length];
-        for (int i = 0; i < length; i++) {
-            row[i] = i % kinds;
-        }
-        return row;
-    }
-
     private static void codesAre(String name, LzwForms x, int... codes) {
         Due.is(name + ": told(6)", x.told(6), codes.length);
         for (int i = 0; i < codes.length; i++) {
@@ -64,7 +46,7 @@ public final class PackTest {
     private static void publishedForm0() {
         String[] rows = {"1111122222", "1111122222", "1111122222", "1110000222", "1110000222",
             "2220000111", "2220000111", "2222211111", "2222211111", "2222211111"};
-        LzwForms x = with(0, 2, 12, 1);
+        LzwForms x = Make.with(0, 2, 12, 1);
         for (String row : rows) {
             for (char c : row.toCharArray()) {
                 x.symbol(c - '0');
@@ -76,33 +58,33 @@ public final class PackTest {
 
     // The example of LZWDecode in the reference of PDF.
     private static void publishedForm1() {
-        LzwForms x = with(1, 8, 12, 1, 45, 45, 45, 45, 45, 65, 45, 45, 45, 66);
+        LzwForms x = Make.with(1, 8, 12, 1, 45, 45, 45, 45, 45, 65, 45, 45, 45, 66);
         codesAre("PDF", x, 256, 45, 258, 258, 65, 259, 66, 257);
         tapeIs("PDF", x, 0x80, 0x0B, 0x60, 0x50, 0x22, 0x0C, 0x0C, 0x85, 0x01);
     }
 
     // The example in section 13 of TIFF 6.0.
     private static void publishedCodesOfForm1() {
-        LzwForms x = with(1, 8, 12, 1, 7, 7, 7, 8, 8, 7, 7, 6, 6);
+        LzwForms x = Make.with(1, 8, 12, 1, 7, 7, 7, 8, 8, 7, 7, 6, 6);
         codesAre("TIFF", x, 256, 7, 258, 8, 8, 258, 6, 6, 257);
     }
 
     // gzip -d gives "aaaaaaaaaa" from 1F 9D 8C and these bytes.
     private static void gzipReadsForm2() {
-        LzwForms x = with(2, 8, 12, 1, 97, 97, 97, 97, 97, 97, 97, 97, 97, 97);
+        LzwForms x = Make.with(2, 8, 12, 1, 97, 97, 97, 97, 97, 97, 97, 97, 97, 97);
         codesAre("compress", x, 97, 257, 258, 259);
         tapeIs("compress", x, 0x61, 0x02, 0x0A, 0x1C, 0x08);
     }
 
     private static void emptyData() {
-        LzwForms x = with(1, 8, 10, 0);
+        LzwForms x = Make.with(1, 8, 10, 0);
         codesAre("empty, FORM 1", x, 256, 257);
         tapeIs("empty, FORM 1", x, 0x80, 0x40, 0x40);
-        x = with(0, 2, 4, 0);
+        x = Make.with(0, 2, 4, 0);
         codesAre("empty, K 2", x, 4, 5);
         Due.is("empty, K 2: told(7)", x.told(7), 6);
         tapeIs("empty, K 2", x, 0x2C);
-        x = with(2, 8, 12, 1);
+        x = Make.with(2, 8, 12, 1);
         codesAre("empty, FORM 2", x);
         tapeIs("empty, FORM 2", x);
     }
@@ -111,7 +93,7 @@ public final class PackTest {
         // COUNT is FIRST behind the first CODE of a STRING and one more behind each other.
         int[] lastNarrow = {255, 254, 255};
         for (int form = 0; form <= 2; form++) {
-            LzwForms x = with(form, 8, 12, 0, counted(270, 256));
+            LzwForms x = Make.with(form, 8, 12, 0, Make.counted(270, 256));
             int i = lastNarrow[form];
             Due.is("FORM " + form + ": WIDTH 9", x.code(i, 1), 9);
             Due.is("FORM " + form + ": WIDTH 10", x.code(i + 1, 1), 10);
@@ -121,7 +103,7 @@ public final class PackTest {
     }
 
     private static void widthStaysAtMost() {
-        LzwForms x = with(0, 2, 4, 0, counted(300, 3));
+        LzwForms x = Make.with(0, 2, 4, 0, Make.counted(300, 3));
         int codes = x.told(6);
         int bits = 0;
         for (int i = 0; i < codes; i++) {
@@ -136,7 +118,7 @@ public final class PackTest {
     private static void clearsWhenFull() {
         // Ten STRINGS (6 to 15) fill this TABLE; 0 1 2 3 0 2 1 3 1 0 0 brings ten new pairs.
         int[] pairs = {0, 1, 2, 3, 0, 2, 1, 3, 1, 0, 0};
-        LzwForms x = with(0, 2, 4, 1, pairs);
+        LzwForms x = Make.with(0, 2, 4, 1, pairs);
         codesAre("FULL", x, 4, 0, 1, 2, 3, 0, 2, 1, 3, 1, 0, 4, 0, 5);
         Due.is("FULL: told(9)", x.told(9), 2);
         Due.is("FULL: told(8)", x.told(8), 0);
@@ -145,7 +127,7 @@ public final class PackTest {
         // One SYMBOL fewer: DATA does not go on, so the TABLE does not get FULL.
         int[] fewer = new int[10];
         System.arraycopy(pairs, 0, fewer, 0, 10);
-        x = with(0, 2, 4, 1, fewer);
+        x = Make.with(0, 2, 4, 1, fewer);
         codesAre("not FULL", x, 4, 0, 1, 2, 3, 0, 2, 1, 3, 1, 0, 5);
         Due.is("not FULL: told(8)", x.told(8), 9);
         Due.is("not FULL: told(9)", x.told(9), 1);
@@ -153,7 +135,7 @@ public final class PackTest {
 
     private static void neverClears() {
         int[] pairs = {0, 1, 2, 3, 0, 2, 1, 3, 1, 0, 0, 1, 2, 0, 1, 2};
-        LzwForms x = with(0, 2, 4, 0, pairs);
+        LzwForms x = Make.with(0, 2, 4, 0, pairs);
         // 0 1 is 6 and 1 2 is 7; 0 1 2 gets no NUMBER as the TABLE stays FULL.
         codesAre("never", x, 4, 0, 1, 2, 3, 0, 2, 1, 3, 1, 0, 6, 2, 6, 2, 5);
         Due.is("never: told(8)", x.told(8), 10);
@@ -163,24 +145,24 @@ public final class PackTest {
     }
 
     private static void clearsBehindSoManyCodes() {
-        LzwForms x = with(0, 8, 12, 2, 1, 2, 3, 4, 5);
+        LzwForms x = Make.with(0, 8, 12, 2, 1, 2, 3, 4, 5);
         codesAre("CLEARS 2", x, 256, 1, 2, 256, 3, 4, 256, 5, 257);
         Due.is("CLEARS 2: told(9)", x.told(9), 3);
-        x = with(0, 8, 12, 2, 1, 2, 3, 4);
+        x = Make.with(0, 8, 12, 2, 1, 2, 3, 4);
         codesAre("CLEARS 2, DATA ends", x, 256, 1, 2, 256, 3, 4, 257);
         Due.is("CLEARS 2: told(8)", x.told(8), 1);
-        x = with(0, 8, 12, 100, counted(201, 256));
+        x = Make.with(0, 8, 12, 100, Make.counted(201, 256));
         Due.is("CLEARS 100: told(9)", x.told(9), 3);
         Due.is("CLEARS 100: code(101, 0)", x.code(101, 0), 256);
         Due.is("CLEARS 100: code(202, 0)", x.code(202, 0), 256);
         // The FULL TABLE alone does not bring a CLEAR then.
-        x = with(0, 2, 4, 20, 0, 1, 2, 3, 0, 2, 1, 3, 1, 0, 0, 0);
+        x = Make.with(0, 2, 4, 20, 0, 1, 2, 3, 0, 2, 1, 3, 1, 0, 0, 0);
         Due.is("CLEARS 20: told(9)", x.told(9), 1);
         Due.is("CLEARS 20: told(8)", x.told(8), 10);
     }
 
     private static void groupsAreFilled() {
-        LzwForms x = with(2, 8, 12, 2, 1, 2, 3, 4, 5);
+        LzwForms x = Make.with(2, 8, 12, 2, 1, 2, 3, 4, 5);
         codesAre("GROUPS", x, 1, 2, 256, 3, 4, 256, 5);
         int[] begins = {0, 9, 18, 72, 81, 90, 144};
         for (int i = 0; i < begins.length; i++) {
@@ -195,19 +177,19 @@ public final class PackTest {
     }
 
     private static void fullGroupIsNotFilled() {
-        LzwForms x = with(2, 8, 12, 7, counted(15, 256));
+        LzwForms x = Make.with(2, 8, 12, 7, Make.counted(15, 256));
         Due.is("CLEAR is the eighth: code(7, 0)", x.code(7, 0), 256);
         Due.is("CLEAR is the eighth: code(8, 2)", x.code(8, 2), 72);
         Due.is("CLEAR is the eighth: code(16, 2)", x.code(16, 2), 144);
         Due.is("CLEAR is the eighth: told(7)", x.told(7), 153);
-        x = with(2, 8, 12, 8, counted(9, 256));
+        x = Make.with(2, 8, 12, 8, Make.counted(9, 256));
         Due.is("CLEAR is the ninth: code(8, 0)", x.code(8, 0), 256);
         Due.is("CLEAR is the ninth: code(8, 2)", x.code(8, 2), 72);
         Due.is("CLEAR is the ninth: code(9, 2)", x.code(9, 2), 144);
     }
 
     private static void strings() {
-        LzwForms x = with(0, 3, 12, 1, 5, 6, 5, 6, 7);
+        LzwForms x = Make.with(0, 3, 12, 1, 5, 6, 5, 6, 7);
         // CODES: 8, 5, 6, 10, 7, 9; STRINGS: 10 is 5 6, 11 is 6 5, 12 is 5 6 7.
         int[][] due = {{10, 5, 6, 2}, {11, 6, 5, 2}, {12, 10, 7, 3}, {0, NONE, 0, 1}, {7, NONE, 7, 1},
             {8, NONE, NONE, NONE}, {9, NONE, NONE, NONE}, {13, NONE, NONE, NONE}, {-1, NONE, NONE, NONE},
@@ -220,7 +202,7 @@ public final class PackTest {
                 Due.is("8: string(" + one[0] + ", " + what + ")", x.string(one[0], what), OUTSIDE);
             }
         }
-        x = with(2, 8, 12, 1, 5, 6);
+        x = Make.with(2, 8, 12, 1, 5, 6);
         Due.is("8: CLEAR in FORM 2", x.string(256, 1), NONE);
         Due.is("8: FIRST in FORM 2", x.string(257, 1), 6);
         Due.is("8: its head", x.string(257, 0), 5);
@@ -228,7 +210,7 @@ public final class PackTest {
     }
 
     private static void stringsBehindAClear() {
-        LzwForms x = with(0, 8, 12, 3, 1, 2, 3, 4, 5);
+        LzwForms x = Make.with(0, 8, 12, 3, 1, 2, 3, 4, 5);
         // The TABLE at the end has what came behind the latest CLEAR alone.
         Due.is("8: told(8)", x.told(8), 1);
         Due.is("8: string(258, 0)", x.string(258, 0), 4);
@@ -237,7 +219,7 @@ public final class PackTest {
     }
 
     private static void codeBounds() {
-        LzwForms x = with(0, 8, 12, 1, 9);
+        LzwForms x = Make.with(0, 8, 12, 1, 9);
         for (int what : new int[] {Integer.MIN_VALUE, -1, 3, Integer.MAX_VALUE}) {
             Due.is("7: code(0, " + what + ")", x.code(0, what), OUTSIDE);
             Due.is("7: code(99, " + what + ")", x.code(99, what), OUTSIDE);
@@ -253,7 +235,7 @@ public final class PackTest {
     }
 
     private static void packedFollowsDataAndSetting() {
-        LzwForms x = with(0, 8, 12, 1, 3, 3, 3, 3);
+        LzwForms x = Make.with(0, 8, 12, 1, 3, 3, 3, 3);
         Due.is("told(6) before", x.told(6), 5);
         Due.is("string(258, 2) before", x.string(258, 2), 2);
         x.symbol(200);
@@ -274,7 +256,7 @@ public final class PackTest {
     }
 
     private static void writeHasRoom() {
-        LzwForms x = with(2, 8, 12, 2, counted(88, 256));
+        LzwForms x = Make.with(2, 8, 12, 2, Make.counted(88, 256));
         // A GROUP of nine bytes for each two SYMBOLS, the last one of 18 bits: 43 * 9 + 3.
         x.more(7);
         Due.is("9: write()", x.write(), 390);
@@ -288,7 +270,7 @@ public final class PackTest {
         Due.is("9: its last byte stays", x.octet(396), 100);
         Due.is("9: DATA stays", x.told(0), 91);
         // Two SYMBOLS and a CLEAR, 27 bits, again and again: 400 bytes are met, and passed.
-        x = with(0, 8, 12, 2, counted(235, 256));
+        x = Make.with(0, 8, 12, 2, Make.counted(235, 256));
         Due.is("9: told(6)", x.told(6), 235 + 117 + 2);
         Due.is("9: write() of 3186 bits", x.write(), 399);
         x.symbol(5);

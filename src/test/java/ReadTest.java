@@ -2,45 +2,6 @@
 public final class ReadTest {
     private static final int NONE = LzwForms.NONE;
 
-    /** Bits that are put on THE TAPE of an object by more(), in the order of its FORM. */
-    private static final class Bits {
-        private final boolean highestFirst;
-        private final StringBuilder text = new StringBuilder();
-
-        Bits(int form) {
-            highestFirst = form == 1;
-        }
-
-        Bits code(int code, int width) {
-            StringBuilder one = new StringBuilder();
-            for (int i = 0; i < width; i++) {
-                one.append((code >> (highestFirst ? width - 1 - i : i)) & 1);
-            }
-            text.append(one);
-            return this;
-        }
-
-        Bits zeros(int count) {
-            text.append("0".repeat(count));
-            return this;
-        }
-
-        int length() {
-            return text.length();
-        }
-
-        void putOn(LzwForms x) {
-            x.cut(0);
-            for (int from = 0; from < text.length(); from += 8) {
-                int b = 0;
-                for (int i = 0; i < 8 && from + i < text.length(); i++) {
-                    b |= (text.charAt(from + i) - '0') << (highestFirst ? 7 - i : i);
-                }
-                x.more(b);
-            }
-        }
-    }
-
     public static void main(String[] args) {
         wayBack();
         bitsEnd();
@@ -77,7 +38,7 @@ public final class ReadTest {
     }
 
     private static LzwForms of(int form, int k, int most) {
-        return PackTest.with(form, k, most, 1);
+        return Make.with(form, k, most, 1);
     }
 
     private static void wayBack() {
@@ -88,7 +49,7 @@ public final class ReadTest {
                     for (int i = 0; i < symbols.length; i++) {
                         symbols[i] = i * i / 3 % (1 << k);
                     }
-                    LzwForms x = PackTest.with(form, k, k + 2, clears, symbols);
+                    LzwForms x = Make.with(form, k, k + 2, clears, symbols);
                     x.write();
                     x.empty();
                     String name = "14: FORM " + form + ", K " + k + ", CLEARS " + clears;
@@ -246,7 +207,7 @@ public final class ReadTest {
         reads("several CLEARS, FORM 2", of(2, 8, 12), new Bits(2).code(256, 9).zeros(63).code(256, 9).zeros(63)
             .code(1, 9).code(257, 9).code(256, 9).zeros(45).code(2, 9).code(257, 9), 1, 1, 1, 2, 2, 2);
         // The SETTING'S CLEARS has no say in reading.
-        reads("CLEARS 0", PackTest.with(0, 8, 12, 0), new Bits(0).code(256, 9).code(1, 9).code(256, 9)
+        reads("CLEARS 0", Make.with(0, 8, 12, 0), new Bits(0).code(256, 9).code(1, 9).code(256, 9)
             .code(2, 9).code(257, 9), 1, 2);
     }
 
@@ -329,7 +290,7 @@ public final class ReadTest {
     }
 
     private static void dataAndTapeStay() {
-        LzwForms x = PackTest.with(0, 8, 12, 1, 4, 5, 6);
+        LzwForms x = Make.with(0, 8, 12, 1, 4, 5, 6);
         x.write();
         int bytes = x.told(5);
         x.flip(0, 0);
